@@ -35,9 +35,10 @@ public final class SheetNeeds {
     private int workedInAllRuns;
 
     public SheetNeeds() {
-        sheet = new Sheet();
+        Formulas formulas = new Formulas();
+        sheet = new Sheet(formulas);
         history = new History();
-        plan = new Plan(sheet.formulas);
+        plan = new Plan(formulas);
         people = new Copy[MOST_PEOPLE];
         for (int i = 0; i < MOST_PEOPLE; i++) {
             people[i] = new Copy();
@@ -299,7 +300,7 @@ public final class SheetNeeds {
 
     /** All that an undo brings back. */
     private static final class Sheet {
-        final Formulas formulas = new Formulas();
+        final Formulas formulas;
         final long[] sourceNumbers = new long[MOST_SOURCES];
         int sourceCount;
         final boolean[] toldToFail = new boolean[MOST_CELLS];
@@ -309,6 +310,10 @@ public final class SheetNeeds {
         private final boolean[] workedTold = new boolean[MOST_CELLS];
         private final long[] workedFirst = new long[MOST_CELLS];
         private final long[] workedSecond = new long[MOST_CELLS];
+
+        Sheet(Formulas formulas) {
+            this.formulas = formulas;
+        }
 
         /** Whether a formula has an op that there is, and operands among the sources and the given number of cells. */
         boolean allows(int op, int a, int b, int cells) {
@@ -432,7 +437,7 @@ public final class SheetNeeds {
         History() {
             kept = new Sheet[MOST_UNDONE];
             for (int i = 0; i < MOST_UNDONE; i++) {
-                kept[i] = new Sheet();
+                kept[i] = new Sheet(new Formulas());
             }
         }
 

@@ -47,6 +47,7 @@ public final class RunTest {
         CHECK.is("the greater of the extremes", result(4, Long.MIN_VALUE, Long.MAX_VALUE), Long.MAX_VALUE);
         CHECK.is("the greater of -5, -4", result(4, -5, -4), -4);
         CHECK.is("4 else 6", result(5, 4, 6), 4);
+        CHECK.is("-4 else 6", result(5, -4, 6), -4);
         CHECK.is("0 else 6", result(5, 0, 6), 6);
         CHECK.is("0 else 0", result(5, 0, 0), 0);
     }
@@ -198,7 +199,7 @@ public final class RunTest {
         x.fail(2, true);
         CHECK.is("a circle is not worked", x.run(), 0);
         CHECK.is("nor does it fail", x.state(2), 3);
-        // 4 in a circle, used by 6, which is used by 7 in another: 6 stands between two circles.
+        // Cells 0 and 2 use themselves; cell 1 uses the one and is used by the other.
         SheetNeeds y = new SheetNeeds();
         y.cell(0, 0, 0);
         y.cell(0, 0, 0);
