@@ -5,8 +5,11 @@ final class Check {
         void make();
     }
 
+    private static final String NOTHING = "nothing thrown";
+
     private int made;
     private int wrong;
+    private int sentences;
 
     void is(String call, long got, long want) {
         made++;
@@ -45,10 +48,30 @@ final class Check {
         isThrown(call, UnsupportedOperationException.class, made);
     }
 
+    void isAnswered(String call, Call made) {
+        isText(call, nameThrown(made), NOTHING);
+    }
+
+    void isNotGood(String call, Call made) {
+        isThrown(call, IllegalStateException.class, made);
+    }
+
+    /** A sentence of the document, told by its place and words, with a test of its own: it must look at an answer. */
+    void sentence(String place, String words, Call test) {
+        sentences++;
+        int madeBefore = made;
+        int wrongBefore = wrong;
+        isAnswered("the test itself", test);
+        if (wrong != wrongBefore || made == madeBefore + 1) {
+            wrong++;
+            System.out.println("  this breaks " + place + ": " + words);
+        }
+    }
+
     static String nameThrown(Call call) {
         try {
             call.make();
-            return "nothing thrown";
+            return NOTHING;
         } catch (RuntimeException e) {
             return e.getClass().getSimpleName();
         }
@@ -56,7 +79,8 @@ final class Check {
 
     /** Ends the test with exit code 1 if an answer was wrong, or if nothing was asked. */
     void end() {
-        System.out.println(made + " answers looked at, " + wrong + " not as due");
+        System.out.println((sentences == 0 ? "" : sentences + " sentences, ")
+                + made + " answers looked at, " + wrong + " not as due");
         if (wrong != 0 || made == 0) {
             System.exit(1);
         }
