@@ -1,7 +1,8 @@
 /** What is used, and circles, at their edges. */
 public final class CircleEdgesTest {
     private static final Check CHECK = new Check();
-    private static final String USES = "The k-th source, by number, that a cell's formula as it is uses, by way of any cells.";
+    private static final String USES =
+            "The k-th source, by number, that a cell's formula as it is uses, by way of any cells.";
     private static final String SHORTEST = "The length of the shortest circle by formulas as they are; 0 without.";
     private static final String BEGINS = "it begins with the lowest cell that is in one of that length";
     private static final String NEXT = "each uses the next one, the lowest one by which it can be closed in time.";
@@ -26,7 +27,8 @@ public final class CircleEdgesTest {
         CHECK.sentence("promise 19, the lower one comes too late", NEXT, CircleEdgesTest::lowerOneTooLate);
         CHECK.sentence("promise 19, the lower one does not come back", NEXT, CircleEdgesTest::lowerOneNeverBack);
         CHECK.sentence("promise 19, the choice is made again at each cell", NEXT, CircleEdgesTest::choiceAtEachCell);
-        CHECK.sentence("promise 19, the last one", "IndexOutOfBoundsException, when there is none.", CircleEdgesTest::lastOne);
+        CHECK.sentence("promise 19, the last one", "IndexOutOfBoundsException, when there is none.",
+                CircleEdgesTest::lastOne);
         CHECK.end();
     }
 

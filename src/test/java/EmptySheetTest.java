@@ -13,7 +13,8 @@ public final class EmptySheetTest {
         CHECK.sentence("promise 10, before a run", "when there is none", EmptySheetTest::nothingWorkedYet);
         CHECK.sentence("promise 12", "with a copy of the sheet as it is", EmptySheetTest::personOfAnEmptySheet);
         CHECK.sentence("promise 13", "or the copy has no such cell;", EmptySheetTest::writeInAnEmptyCopy);
-        CHECK.sentence("terms, JOINING", "(cells that are new in the sheet come into it, too)", EmptySheetTest::joinOfAnEmptyCopy);
+        CHECK.sentence("terms, JOINING", "(cells that are new in the sheet come into it, too)",
+                EmptySheetTest::joinOfAnEmptyCopy);
         CHECK.sentence("promise 15", "How many edits a person has.", EmptySheetTest::noEdits);
         CHECK.sentence("promise 16", "Undoes the latest thing: whether there was one.", EmptySheetTest::nothingToUndo);
         CHECK.sentence("promise 17", "or none such.", EmptySheetTest::noSourceUsed);

@@ -4,7 +4,8 @@ public final class FullSheetTest {
     private static final String UP_TO_16 = "up to 16 of these can be undone, the latest first";
 
     public static void main(String[] args) {
-        CHECK.sentence("what it is", "An object is used for at most 512 calls after it has been made", FullSheetTest::calls512);
+        CHECK.sentence("what it is", "An object is used for at most 512 calls after it has been made",
+                FullSheetTest::calls512);
         CHECK.sentence("terms, SOURCES", "SOURCES (up to 60) are numbers.", FullSheetTest::sixtySources);
         CHECK.sentence("promise 2", "UnsupportedOperationException, when there are sixty.", FullSheetTest::source61);
         CHECK.sentence("terms, OPERANDS", "source k (as -1 - k)", FullSheetTest::sourcesAsOperands);
@@ -15,12 +16,14 @@ public final class FullSheetTest {
         CHECK.sentence("promise 7, 150 cells", "A run: how many cells were worked.", FullSheetTest::runOf150);
         CHECK.sentence("terms, RUN, 150 cells", "an order in which operands are before those that use them",
                 FullSheetTest::lastCellComesFirst);
-        CHECK.sentence("promise 20, 150 cells of a state", "good ones (6), failing ones (7), barred ones (8), in circles (9)",
+        CHECK.sentence("promise 20, 150 cells of a state",
+                "good ones (6), failing ones (7), barred ones (8), in circles (9)",
                 FullSheetTest::allOfOneState);
         CHECK.sentence("promise 20, what 5", "in all runs (5)", FullSheetTest::workedInAllRuns);
         CHECK.sentence("terms, PEOPLE", "PEOPLE (up to 4): each has a COPY of all formulas", FullSheetTest::fourCopies);
         CHECK.sentence("promise 12", "UnsupportedOperationException, when there are four.", FullSheetTest::fifthPerson);
-        CHECK.sentence("terms, JOINING, 150 edits", "Without clashes the sheet takes all edits", FullSheetTest::edits150);
+        CHECK.sentence("terms, JOINING, 150 edits", "Without clashes the sheet takes all edits",
+                FullSheetTest::edits150);
         CHECK.sentence("promise 14, 150 clashes", "how many cells clash", FullSheetTest::clashes150);
         CHECK.sentence("terms, UNDO, fifteen and sixteen", UP_TO_16, FullSheetTest::fifteenAndSixteen);
         CHECK.sentence("terms, UNDO, one more than sixteen", UP_TO_16, FullSheetTest::seventeen);

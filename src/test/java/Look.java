@@ -19,8 +19,8 @@ final class Look {
     }
 
     /**
-     * By all calls: also what can be undone, the sources, what is told to fail, the next run and the copies. The sheet is
-     * used up by it. For up to four cells and two things to undo it makes some 400 calls.
+     * By all calls: also what can be undone, the sources, what is told to fail, the next run and the copies. The sheet
+     * is used up by it. For up to four cells and two things to undo it makes some 300 calls.
      */
     static String through(SheetNeeds x) {
         Look look = new Look(x);

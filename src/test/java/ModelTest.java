@@ -3,7 +3,8 @@ import java.util.function.Supplier;
 
 /** Many runs of calls, always the same ones, whose answers are compared with those of PlainSheet. */
 public final class ModelTest {
-    private static final int RUNS = 1500;
+    private static final int SMALL_RUNS = 1500;
+    private static final int FULL_RUNS = 60;
     private static final int CALLS = 512;
     private static final int[] ODD = {Integer.MIN_VALUE, Integer.MAX_VALUE, -62, -61, -7, 6, 60, 150, 151};
     private static final long[] NUMBERS = {0, 0, 1, 1, 2, -1, -2, 3, Long.MIN_VALUE, Long.MAX_VALUE, 1L << 33};
@@ -13,12 +14,15 @@ public final class ModelTest {
     private final SheetNeeds real = new SheetNeeds();
     private final PlainSheet plain = new PlainSheet();
     private final StringBuilder told = new StringBuilder();
+    private final boolean full;
     private final int mostCells;
     private final int calm;
+    private int calls;
     private boolean same = true;
 
-    private ModelTest(Check check, int seed) {
+    private ModelTest(Check check, int seed, boolean full) {
         this.check = check;
+        this.full = full;
         random = new Random(seed);
         mostCells = 2 + random.nextInt(9);
         calm = random.nextInt(3);
@@ -26,14 +30,20 @@ public final class ModelTest {
 
     public static void main(String[] args) {
         Check check = new Check();
-        for (int seed = 0; seed < RUNS; seed++) {
-            new ModelTest(check, seed).go();
+        for (int seed = 0; seed < SMALL_RUNS; seed++) {
+            new ModelTest(check, seed, false).go();
+        }
+        for (int seed = 0; seed < FULL_RUNS; seed++) {
+            new ModelTest(check, seed, true).go();
         }
         check.end();
     }
 
     private void go() {
-        for (int i = 0; i < CALLS && same; i++) {
+        if (full) {
+            fill();
+        }
+        while (calls < CALLS && same) {
             call();
         }
         if (!same) {
@@ -41,11 +51,32 @@ public final class ModelTest {
         }
     }
 
+    /** Up to the most that there may be, or a little less: cells use sources and cells before them. */
+    private void fill() {
+        int sources = 60 - random.nextInt(2);
+        int cells = 150 - random.nextInt(3);
+        for (int i = 0; i < sources && same; i++) {
+            addSource(1 + random.nextInt(5));
+        }
+        for (int i = 0; i < cells && same; i++) {
+            addCell(random.nextInt(3), operandBefore(i), operandBefore(i));
+        }
+        for (int i = 0; i < 3 && same; i++) {
+            compare("person()", () -> real.person(), () -> plain.person());
+        }
+    }
+
+    private int operandBefore(int cell) {
+        boolean source = cell == 0 || random.nextInt(4) < calm + 1;
+        return source ? -1 - random.nextInt(plain.count(0)) : cell - 1 - random.nextInt(Math.min(cell, 10));
+    }
+
     private void compare(String call, Supplier<Object> ofReal, Supplier<Object> ofPlain) {
         String want = answer(ofPlain);
         String got = answer(ofReal);
         check.isText(call, got, want);
         same = got.equals(want);
+        calls++;
         told.append(call).append(" = ").append(want).append("; ");
     }
 
@@ -105,17 +136,21 @@ public final class ModelTest {
 
     private void grow() {
         int kind = random.nextInt(12);
-        if (kind < 3 && plain.count(0) < 4) {
-            long v = number();
-            compare("source(" + v + ")", () -> real.source(v), () -> plain.source(v));
-        } else if (kind < 11 && plain.count(1) < mostCells) {
-            int op = op();
-            int a = random.nextInt(8) == 0 ? plain.count(1) : operand();
-            int b = operand();
-            compare("cell(" + op + ", " + a + ", " + b + ")", () -> real.cell(op, a, b), () -> plain.cell(op, a, b));
+        if (kind < 3 && (full || plain.count(0) < 4)) {
+            addSource(number());
+        } else if (kind < 11 && (full || plain.count(1) < mostCells)) {
+            addCell(op(), random.nextInt(8) == 0 ? plain.count(1) : operand(), operand());
         } else if (random.nextInt(4) == 0) {
             compare("person()", () -> real.person(), () -> plain.person());
         }
+    }
+
+    private void addSource(long v) {
+        compare("source(" + v + ")", () -> real.source(v), () -> plain.source(v));
+    }
+
+    private void addCell(int op, int a, int b) {
+        compare("cell(" + op + ", " + a + ", " + b + ")", () -> real.cell(op, a, b), () -> plain.cell(op, a, b));
     }
 
     private void alter() {
@@ -160,7 +195,7 @@ public final class ModelTest {
 
     private void look() {
         int cell = someCell();
-        int k = some(0, 5);
+        int k = some(0, full ? 20 : 5);
         switch (random.nextInt(8)) {
             case 0 -> compare("at(" + cell + ")", () -> real.at(cell), () -> plain.at(cell));
             case 1 -> compare("state(" + cell + ")", () -> real.state(cell), () -> plain.state(cell));

@@ -1,9 +1,11 @@
 /** People at their edges: what is in a copy, what is an edit, what is a clash, and what a join leaves. */
 public final class PeopleEdgesTest {
     private static final Check CHECK = new Check();
-    private static final String EDITS = "cells that are another formula in the copy than at that time are the person's EDITS.";
+    private static final String EDITS =
+            "cells that are another formula in the copy than at that time are the person's EDITS.";
     private static final String CLASH =
-            "They CLASH in a cell, if the sheet's formula is another one than at that time, too, and not that of the copy.";
+            "They CLASH in a cell, if the sheet's formula is another one than at that time, too, and not"
+                    + " that of the copy.";
 
     public static void main(String[] args) {
         copies();
@@ -13,15 +15,22 @@ public final class PeopleEdgesTest {
     }
 
     private static void copies() {
-        CHECK.sentence("terms, COPY", "from the time when they came or their latest join", PeopleEdgesTest::timeTheyCame);
-        CHECK.sentence("terms, COPY, joined", "from the time when they came or their latest join", PeopleEdgesTest::timeOfTheJoin);
-        CHECK.sentence("terms, COPY, a join that clashes", "or their latest join", PeopleEdgesTest::clashingJoinIsNoTime);
-        CHECK.sentence("terms, COPY", "Cells that came later than the copy are not in it.", PeopleEdgesTest::laterCells);
-        CHECK.sentence("promise 12", "A person more, with a copy of the sheet as it is: its number.", PeopleEdgesTest::numbersOfPeople);
+        CHECK.sentence("terms, COPY", "from the time when they came or their latest join",
+                PeopleEdgesTest::timeTheyCame);
+        CHECK.sentence("terms, COPY, joined", "from the time when they came or their latest join",
+                PeopleEdgesTest::timeOfTheJoin);
+        CHECK.sentence("terms, COPY, a join that clashes", "or their latest join",
+                PeopleEdgesTest::clashingJoinIsNoTime);
+        CHECK.sentence("terms, COPY", "Cells that came later than the copy are not in it.",
+                PeopleEdgesTest::laterCells);
+        CHECK.sentence("promise 12", "A person more, with a copy of the sheet as it is: its number.",
+                PeopleEdgesTest::numbersOfPeople);
         CHECK.sentence("promise 13", "A person's copy has another formula of a cell: whether it is another one.",
                 PeopleEdgesTest::writeAnswers);
-        CHECK.sentence("promise 13, source", "when there is no such op, source, or cell of the copy.", PeopleEdgesTest::laterSource);
-        CHECK.sentence("promise 13, the copy alone", "A person's copy has another formula of a cell", PeopleEdgesTest::onlyTheCopy);
+        CHECK.sentence("promise 13, source", "when there is no such op, source, or cell of the copy.",
+                PeopleEdgesTest::laterSource);
+        CHECK.sentence("promise 13, the copy alone", "A person's copy has another formula of a cell",
+                PeopleEdgesTest::onlyTheCopy);
     }
 
     private static void editsAndClashes() {
@@ -45,10 +54,13 @@ public final class PeopleEdgesTest {
 
     private static void joins() {
         CHECK.sentence("promise 14", "how many cells clash", PeopleEdgesTest::countsClashes);
-        CHECK.sentence("promise 14, one clash of three edits", "(nothing is done then, if any do)", PeopleEdgesTest::oneClashBarsAll);
+        CHECK.sentence("promise 14, one clash of three edits", "(nothing is done then, if any do)",
+                PeopleEdgesTest::oneClashBarsAll);
         CHECK.sentence("terms, JOINING", "Without clashes the sheet takes all edits", PeopleEdgesTest::takesEditsAlone);
-        CHECK.sentence("terms, JOINING", "and the copy becomes the sheet's formulas", PeopleEdgesTest::copyBecomesTheSheet);
-        CHECK.sentence("terms, JOINING", "(cells that are new in the sheet come into it, too)", PeopleEdgesTest::newCellsComeIn);
+        CHECK.sentence("terms, JOINING", "and the copy becomes the sheet's formulas",
+                PeopleEdgesTest::copyBecomesTheSheet);
+        CHECK.sentence("terms, JOINING", "(cells that are new in the sheet come into it, too)",
+                PeopleEdgesTest::newCellsComeIn);
         CHECK.sentence("promise 14, no edits", "Joins a person's edits", PeopleEdgesTest::noEdits);
         CHECK.sentence("promise 14, states", "Joins a person's edits", PeopleEdgesTest::joinIsNoRun);
     }

@@ -4,7 +4,7 @@ import java.util.TreeSet;
 
 /**
  * The document once more, written as plainly as can be: whole lists are copied, and circles are searched by trying
- * every way. ModelTest compares the program with it on small sheets.
+ * every length and every first cell. ModelTest compares the program with it.
  */
 final class PlainSheet {
     private record Formula(int op, int a, int b) {
@@ -117,16 +117,23 @@ final class PlainSheet {
         return (f.b >= 0 && all.add(f.b)) || more;
     }
 
+    private TreeSet<Integer> circling() {
+        TreeSet<Integer> all = new TreeSet<>();
+        for (int i = 0; i < cells.size(); i++) {
+            if (reached(i).contains(i)) {
+                all.add(i);
+            }
+        }
+        return all;
+    }
+
     int run() {
         keep();
         workedCells = new ArrayList<>();
-        TreeSet<Integer> came = new TreeSet<>();
-        for (int i = 0; i < cells.size(); i++) {
-            if (reached(i).contains(i)) {
-                Cell c = cells.get(i);
-                cells.set(i, new Cell(c.formula, c.told, 3, 0, c.last));
-                came.add(i);
-            }
+        TreeSet<Integer> came = circling();
+        for (int i : came) {
+            Cell c = cells.get(i);
+            cells.set(i, new Cell(c.formula, c.told, 3, 0, c.last));
         }
         while (came.size() < cells.size()) {
             int next = 0;
@@ -288,12 +295,13 @@ final class PlainSheet {
         return new ArrayList<>(found).get(k);
     }
 
-    /** Tries every way of this length, the lowest first: the shortest circle, or an empty list. */
+    /** Tries every length and every first cell, the lowest first: the shortest circle, or an empty list. */
     private List<Integer> shortest() {
-        for (int length = 1; length <= cells.size(); length++) {
-            for (int start = 0; start < cells.size(); start++) {
-                List<Integer> way = new ArrayList<>(List.of(start));
-                if (closes(way, length)) {
+        TreeSet<Integer> starts = circling();
+        for (int length = 1; length <= starts.size(); length++) {
+            for (int start : starts) {
+                List<Integer> way = wayRound(start, length);
+                if (!way.isEmpty()) {
                     return way;
                 }
             }
@@ -301,22 +309,35 @@ final class PlainSheet {
         return List.of();
     }
 
-    private boolean closes(List<Integer> way, int length) {
-        Formula f = cells.get(way.get(way.size() - 1)).formula;
-        int start = way.get(0);
-        if (way.size() == length) {
-            return f.a == start || f.b == start;
+    private List<Integer> wayRound(int start, int length) {
+        List<TreeSet<Integer>> back = comeBack(start, length);
+        if (!back.get(length).contains(start)) {
+            return List.of();
         }
-        for (int next : new int[] {Math.min(f.a, f.b), Math.max(f.a, f.b)}) {
-            if (next >= 0) {
-                way.add(next);
-                if (closes(way, length)) {
-                    return true;
+        List<Integer> way = new ArrayList<>(List.of(start));
+        for (int left = length - 1; left > 0; left--) {
+            Formula f = cells.get(way.get(way.size() - 1)).formula;
+            int low = Math.min(f.a, f.b);
+            way.add(back.get(left).contains(low) ? low : Math.max(f.a, f.b));
+        }
+        return way;
+    }
+
+    /** At place n the cells that come to the start in exactly n uses. */
+    private List<TreeSet<Integer>> comeBack(int start, int length) {
+        List<TreeSet<Integer>> back = new ArrayList<>();
+        back.add(new TreeSet<>(List.of(start)));
+        for (int uses = 1; uses <= length; uses++) {
+            TreeSet<Integer> now = new TreeSet<>();
+            for (int i = 0; i < cells.size(); i++) {
+                Formula f = cells.get(i).formula;
+                if (back.get(uses - 1).contains(f.a) || back.get(uses - 1).contains(f.b)) {
+                    now.add(i);
                 }
-                way.remove(way.size() - 1);
             }
+            back.add(now);
         }
-        return false;
+        return back;
     }
 
     int circle() {

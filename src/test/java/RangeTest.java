@@ -3,9 +3,9 @@ public final class RangeTest {
     private static final Check CHECK = new Check();
 
     private static final int[] VALUES = {
-        Integer.MIN_VALUE, Integer.MIN_VALUE + 1, -65537, -151, -150, -149, -62, -61, -60, -59, -7, -6, -5, -4, -3, -2, -1,
-        0, 1, 2, 3, 4, 5, 6, 7, 9, 10, 11, 15, 16, 17, 58, 59, 60, 61, 148, 149, 150, 151, 255, 256, 511, 512, 65535, 65536,
-        1 << 30, Integer.MAX_VALUE - 1, Integer.MAX_VALUE,
+        Integer.MIN_VALUE, Integer.MIN_VALUE + 1, -65537, -151, -150, -149, -62, -61, -60, -59, -7, -6, -5, -4, -3, -2,
+        -1, 0, 1, 2, 3, 4, 5, 6, 7, 9, 10, 11, 15, 16, 17, 58, 59, 60, 61, 148, 149, 150, 151, 255, 256, 511, 512,
+        65535, 65536, 1 << 30, Integer.MAX_VALUE - 1, Integer.MAX_VALUE,
     };
 
     /** A sheet with so many sources, cells and people. */
@@ -48,7 +48,8 @@ public final class RangeTest {
     }
 
     /** A call answers from the low bound to below the high one, and throws outside of them. */
-    private static void range(Kind[] kinds, Bound low, Bound high, Class<? extends RuntimeException> outside, Asked asked) {
+    private static void range(Kind[] kinds, Bound low, Bound high, Class<? extends RuntimeException> outside,
+            Asked asked) {
         for (Kind kind : kinds) {
             for (int value : VALUES) {
                 SheetNeeds x = kind.make();
@@ -136,11 +137,14 @@ public final class RangeTest {
                     x.cell(0, -1, -1);
                     x.write(0, v, 0, -1, -1);
                 }));
-        CHECK.sentence("promise 13, op", "IllegalArgumentException, when there is no such op, source, or cell of the copy.", () ->
+        CHECK.sentence("promise 13, op",
+                "IllegalArgumentException, when there is no such op, source, or cell of the copy.", () ->
                 argument(WITH_CELLS, k -> 0, k -> 6, (x, k, v) -> x.write(0, 0, v, -1, -1)));
-        CHECK.sentence("promise 13, a", "IllegalArgumentException, when there is no such op, source, or cell of the copy.", () ->
+        CHECK.sentence("promise 13, a",
+                "IllegalArgumentException, when there is no such op, source, or cell of the copy.", () ->
                 argument(WITH_CELLS, k -> -k.sources, k -> k.cells, (x, k, v) -> x.write(0, 0, 0, v, -1)));
-        CHECK.sentence("promise 13, b", "IllegalArgumentException, when there is no such op, source, or cell of the copy.", () ->
+        CHECK.sentence("promise 13, b",
+                "IllegalArgumentException, when there is no such op, source, or cell of the copy.", () ->
                 argument(WITH_CELLS, k -> -k.sources, k -> k.cells, (x, k, v) -> x.write(0, 0, 0, -1, v)));
         CHECK.sentence("promise 13, a, in a copy older than a cell", "or cell of the copy.", () ->
                 argument(new Kind[] {ONE, SMALL, NEARLY_FULL}, k -> -k.sources, k -> k.cells, (x, k, v) -> {

@@ -74,13 +74,17 @@ public final class RefusedTest {
     }
 
     private static void promises2And3() {
-        CHECK.sentence("promise 2", "UnsupportedOperationException, when there are sixty.", RefusedTest::aSourceTooMany);
+        CHECK.sentence("promise 2", "UnsupportedOperationException, when there are sixty.",
+                RefusedTest::aSourceTooMany);
         CHECK.sentence("promise 3, op", "IllegalArgumentException, when there is no such op", () ->
-                refused(WRONG, x -> x.cell(6, 0, 0), x -> x.cell(-1, 0, 0), x -> x.cell(LOW, 0, 0), x -> x.cell(HIGH, 0, 0)));
+                refused(WRONG, x -> x.cell(6, 0, 0), x -> x.cell(-1, 0, 0), x -> x.cell(LOW, 0, 0),
+                        x -> x.cell(HIGH, 0, 0)));
         CHECK.sentence("promise 3, a", "an operand is neither a source, nor a cell that is there, nor this one", () ->
-                refused(WRONG, x -> x.cell(0, -3, 0), x -> x.cell(0, 5, 0), x -> x.cell(0, LOW, 0), x -> x.cell(0, HIGH, 0)));
+                refused(WRONG, x -> x.cell(0, -3, 0), x -> x.cell(0, 5, 0), x -> x.cell(0, LOW, 0),
+                        x -> x.cell(0, HIGH, 0)));
         CHECK.sentence("promise 3, b", "an operand is neither a source, nor a cell that is there, nor this one", () ->
-                refused(WRONG, x -> x.cell(0, 0, -3), x -> x.cell(0, 0, 5), x -> x.cell(0, 0, LOW), x -> x.cell(0, 0, HIGH)));
+                refused(WRONG, x -> x.cell(0, 0, -3), x -> x.cell(0, 0, 5), x -> x.cell(0, 0, LOW),
+                        x -> x.cell(0, 0, HIGH)));
         CHECK.sentence("promise 3", "UnsupportedOperationException, when there are 150.", RefusedTest::aCellTooMany);
     }
 
@@ -113,7 +117,8 @@ public final class RefusedTest {
 
     private static void promises4To6() {
         CHECK.sentence("promise 4", "IndexOutOfBoundsException, when there is none.", () ->
-                refused(NO_INDEX, x -> x.change(2, 1), x -> x.change(-1, 1), x -> x.change(LOW, 1), x -> x.change(HIGH, 1)));
+                refused(NO_INDEX, x -> x.change(2, 1), x -> x.change(-1, 1), x -> x.change(LOW, 1),
+                        x -> x.change(HIGH, 1)));
         CHECK.sentence("promise 5, cell", "IndexOutOfBoundsException, when there is none;", () ->
                 refused(NO_INDEX, x -> x.edit(4, 0, 0, 0), x -> x.edit(-1, 0, 0, 0),
                         x -> x.edit(LOW, 0, 0, 0), x -> x.edit(HIGH, 0, 0, 0)));
@@ -123,7 +128,8 @@ public final class RefusedTest {
         CHECK.sentence("promise 5, source", "IllegalArgumentException, when there is no such op, source or cell.", () ->
                 refused(WRONG, x -> x.edit(0, 0, -3, 0), x -> x.edit(0, 0, 0, -3),
                         x -> x.edit(0, 0, LOW, 0), x -> x.edit(0, 0, 0, LOW)));
-        CHECK.sentence("promise 5, cell as operand", "IllegalArgumentException, when there is no such op, source or cell.", () ->
+        CHECK.sentence("promise 5, cell as operand",
+                "IllegalArgumentException, when there is no such op, source or cell.", () ->
                 refused(WRONG, x -> x.edit(0, 0, 4, 0), x -> x.edit(0, 0, 0, 4),
                         x -> x.edit(0, 0, HIGH, 0), x -> x.edit(0, 0, 0, HIGH)));
         CHECK.sentence("promise 6", "IndexOutOfBoundsException, when there is none.", () ->
@@ -147,9 +153,11 @@ public final class RefusedTest {
         CHECK.sentence("promise 10", "IndexOutOfBoundsException, when there is none", () ->
                 refused(NO_INDEX, x -> x.worked(2), x -> x.worked(-1), x -> x.worked(LOW), x -> x.worked(HIGH)));
         CHECK.sentence("promise 11, cell", "IndexOutOfBoundsException, when there is no such cell or what.", () ->
-                refused(NO_INDEX, x -> x.formula(4, 0), x -> x.formula(-1, 0), x -> x.formula(LOW, 0), x -> x.formula(HIGH, 0)));
+                refused(NO_INDEX, x -> x.formula(4, 0), x -> x.formula(-1, 0), x -> x.formula(LOW, 0),
+                        x -> x.formula(HIGH, 0)));
         CHECK.sentence("promise 11, what", "IndexOutOfBoundsException, when there is no such cell or what.", () ->
-                refused(NO_INDEX, x -> x.formula(0, 3), x -> x.formula(0, -1), x -> x.formula(0, LOW), x -> x.formula(0, HIGH)));
+                refused(NO_INDEX, x -> x.formula(0, 3), x -> x.formula(0, -1), x -> x.formula(0, LOW),
+                        x -> x.formula(0, HIGH)));
     }
 
     private static void promise12() {
@@ -162,7 +170,8 @@ public final class RefusedTest {
                 refused(NO_INDEX, x -> x.write(1, 0, 0, 0, 0), x -> x.write(-1, 0, 0, 0, 0),
                         x -> x.write(LOW, 0, 0, 0, 0), x -> x.write(HIGH, 0, 0, 0, 0)));
         CHECK.sentence("promise 13, cell", "or the copy has no such cell;", () ->
-                refused(NO_INDEX, x -> x.write(0, 3, 0, 0, 0), x -> x.write(0, 4, 0, 0, 0), x -> x.write(0, -1, 0, 0, 0),
+                refused(NO_INDEX, x -> x.write(0, 3, 0, 0, 0), x -> x.write(0, 4, 0, 0, 0),
+                        x -> x.write(0, -1, 0, 0, 0),
                         x -> x.write(0, LOW, 0, 0, 0), x -> x.write(0, HIGH, 0, 0, 0)));
         CHECK.sentence("promise 13, op", "IllegalArgumentException, when there is no such op", () ->
                 refused(WRONG, x -> x.write(0, 0, 6, 0, 0), x -> x.write(0, 0, -1, 0, 0),
@@ -186,7 +195,8 @@ public final class RefusedTest {
         CHECK.sentence("promise 17, k", "or none such.", () ->
                 refused(NO_INDEX, x -> x.uses(0, 1), x -> x.uses(0, -1), x -> x.uses(0, LOW), x -> x.uses(0, HIGH)));
         CHECK.sentence("promise 19", "IndexOutOfBoundsException, when there is none.", () ->
-                refused(NO_INDEX, x -> x.circleAt(1), x -> x.circleAt(-1), x -> x.circleAt(LOW), x -> x.circleAt(HIGH)));
+                refused(NO_INDEX, x -> x.circleAt(1), x -> x.circleAt(-1), x -> x.circleAt(LOW),
+                        x -> x.circleAt(HIGH)));
         CHECK.sentence("promise 20", "NONE for another what.", () -> {
             SheetNeeds x = busy();
             for (int what : new int[] {10, -1, LOW, HIGH}) {
@@ -215,7 +225,8 @@ public final class RefusedTest {
     }
 
     private static void firstOneTold() {
-        CHECK.sentence("promise 3, op and full", FIRST, () -> firstOfFullSheet(x -> x.cell(6, -1, -1), x -> x.cell(-1, 0, 0)));
+        CHECK.sentence("promise 3, op and full", FIRST,
+                () -> firstOfFullSheet(x -> x.cell(6, -1, -1), x -> x.cell(-1, 0, 0)));
         CHECK.sentence("promise 3, operand and full", FIRST, () -> firstOfFullSheet(
                 x -> x.cell(0, -2, -1), x -> x.cell(0, -1, -2), x -> x.cell(0, 151, 0), x -> x.cell(0, 0, HIGH)));
         CHECK.sentence("promise 5, cell and op", FIRST, () ->

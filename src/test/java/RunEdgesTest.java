@@ -12,37 +12,51 @@ public final class RunEdgesTest {
 
     private static void states() {
         CHECK.sentence("terms, STATE 0", "0 GOOD, with a number", RunEdgesTest::goodWithZero);
-        CHECK.sentence("terms, STATE 1", "1 FAILING (it was worked, and failed; it has no number)", RunEdgesTest::failing);
-        CHECK.sentence("terms, STATE 2", "2 BARRED (an operand is a cell that is not good)", RunEdgesTest::barredByEach);
+        CHECK.sentence("terms, STATE 1", "1 FAILING (it was worked, and failed; it has no number)",
+                RunEdgesTest::failing);
+        CHECK.sentence("terms, STATE 2", "2 BARRED (an operand is a cell that is not good)",
+                RunEdgesTest::barredByEach);
         CHECK.sentence("terms, STATE 3", "3 in a CIRCLE (it uses itself, by way of any)", RunEdgesTest::inACircle);
         CHECK.sentence("terms, STATE 4", "4 NEW (not looked at by a run yet)", RunEdgesTest::newOnes);
     }
 
     private static void runs() {
-        CHECK.sentence("terms, RUN", "A RUN looks at all cells: those in circles have state 3.", RunEdgesTest::circlesAreToldAlways);
+        CHECK.sentence("terms, RUN", "A RUN looks at all cells: those in circles have state 3.",
+                RunEdgesTest::circlesAreToldAlways);
         CHECK.sentence("terms, RUN", "again and again the lowest one all of whose operands came or are in circles.",
                 RunEdgesTest::lowestOneThatIsReady);
-        CHECK.sentence("terms, RUN, the first operand alone", "all of whose operands came", RunEdgesTest::waitsForTheFirst);
-        CHECK.sentence("terms, RUN, the second operand alone", "all of whose operands came", RunEdgesTest::waitsForTheSecond);
+        CHECK.sentence("terms, RUN, the first operand alone", "all of whose operands came",
+                RunEdgesTest::waitsForTheFirst);
+        CHECK.sentence("terms, RUN, the second operand alone", "all of whose operands came",
+                RunEdgesTest::waitsForTheSecond);
         CHECK.sentence("terms, RUN, circles", "or are in circles.", RunEdgesTest::doesNotWaitForCircles);
-        CHECK.sentence("terms, RUN", "One that has an operand cell that is not good is barred.", RunEdgesTest::barredIsNotWorked);
+        CHECK.sentence("terms, RUN", "One that has an operand cell that is not good is barred.",
+                RunEdgesTest::barredIsNotWorked);
     }
 
     private static void workedOrNot() {
         CHECK.sentence("terms, WORKED", "Else it is WORKED, if it is NEW", RunEdgesTest::newIsWorked);
-        CHECK.sentence("terms, WORKED, op", "its formula, or whether it is told to fail, is another one", RunEdgesTest::otherOp);
-        CHECK.sentence("terms, WORKED, a", "its formula, or whether it is told to fail, is another one", RunEdgesTest::otherFirst);
-        CHECK.sentence("terms, WORKED, b", "its formula, or whether it is told to fail, is another one", RunEdgesTest::otherSecond);
-        CHECK.sentence("terms, WORKED, there and back", "is another one than when it was worked last", RunEdgesTest::thereAndBack);
+        CHECK.sentence("terms, WORKED, op", "its formula, or whether it is told to fail, is another one",
+                RunEdgesTest::otherOp);
+        CHECK.sentence("terms, WORKED, a", "its formula, or whether it is told to fail, is another one",
+                RunEdgesTest::otherFirst);
+        CHECK.sentence("terms, WORKED, b", "its formula, or whether it is told to fail, is another one",
+                RunEdgesTest::otherSecond);
+        CHECK.sentence("terms, WORKED, there and back", "is another one than when it was worked last",
+                RunEdgesTest::thereAndBack);
         CHECK.sentence("terms, WORKED, told", "or whether it is told to fail, is another one", RunEdgesTest::toldOrNot);
-        CHECK.sentence("terms, WORKED, told a cell that fails", "or whether it is told to fail", RunEdgesTest::toldWhatFails);
-        CHECK.sentence("terms, WORKED, barred", "it was barred or in a circle at the run before", RunEdgesTest::wasBarred);
-        CHECK.sentence("terms, WORKED, circle", "it was barred or in a circle at the run before", RunEdgesTest::wasInACircle);
+        CHECK.sentence("terms, WORKED, told a cell that fails", "or whether it is told to fail",
+                RunEdgesTest::toldWhatFails);
+        CHECK.sentence("terms, WORKED, barred", "it was barred or in a circle at the run before",
+                RunEdgesTest::wasBarred);
+        CHECK.sentence("terms, WORKED, circle", "it was barred or in a circle at the run before",
+                RunEdgesTest::wasInACircle);
         CHECK.sentence("terms, WORKED, a source", "an operand (a source's number, or a cell's number) is another one",
                 RunEdgesTest::otherSource);
         CHECK.sentence("terms, WORKED, a cell", "an operand (a source's number, or a cell's number) is another one",
                 RunEdgesTest::otherCellNumber);
-        CHECK.sentence("terms, WORKED, an operand that is not looked at", "an operand (a source's number, or a cell's number)",
+        CHECK.sentence("terms, WORKED, an operand that is not looked at",
+                "an operand (a source's number, or a cell's number)",
                 RunEdgesTest::operandThatDoesNotMatter);
         CHECK.sentence("terms, WORKED", "otherwise it stays as it is.", RunEdgesTest::stays);
         CHECK.sentence("terms, WORKED", "(Of one that was barred what it was when it was worked last does not matter.)",
@@ -50,12 +64,15 @@ public final class RunEdgesTest {
     }
 
     private static void promises() {
-        CHECK.sentence("promise 5", "A cell has another formula: whether it is another one.", RunEdgesTest::editAnswers);
+        CHECK.sentence("promise 5", "A cell has another formula: whether it is another one.",
+                RunEdgesTest::editAnswers);
         CHECK.sentence("promise 6", "A cell is told to fail, or not: what it was.", RunEdgesTest::failAnswers);
         CHECK.sentence("promise 7, none", "A run: how many cells were worked.", RunEdgesTest::runThatWorksNone);
-        CHECK.sentence("promise 8", "A cell's number by the latest run (also one that changed since).", RunEdgesTest::numberOfTheLatestRun);
+        CHECK.sentence("promise 8", "A cell's number by the latest run (also one that changed since).",
+                RunEdgesTest::numberOfTheLatestRun);
         CHECK.sentence("promise 9", "A cell's state by the latest run.", RunEdgesTest::stateOfTheLatestRun);
-        CHECK.sentence("promise 10", "The k-th cell that was worked in the latest run.", RunEdgesTest::workedInTheLatestRun);
+        CHECK.sentence("promise 10", "The k-th cell that was worked in the latest run.",
+                RunEdgesTest::workedInTheLatestRun);
         CHECK.sentence("promise 10", "(also behind an undo())", RunEdgesTest::workedBehindUndo);
         CHECK.sentence("promise 20, what 4", "(4; 0 behind an undo())", RunEdgesTest::countBehindUndo);
         CHECK.sentence("promise 20, what 5 behind undo()", "in all runs (5)", RunEdgesTest::countOfAllRuns);

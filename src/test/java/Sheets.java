@@ -1,10 +1,5 @@
 /** Sheets that several tests begin with. */
 final class Sheets {
-    static final int MOST_SOURCES = 60;
-    static final int MOST_CELLS = 150;
-    static final int MOST_PEOPLE = 4;
-    static final int MOST_UNDONE = 16;
-
     private Sheets() {
     }
 
@@ -24,7 +19,7 @@ final class Sheets {
     }
 
     static SheetNeeds full() {
-        return of(MOST_SOURCES, MOST_CELLS, MOST_PEOPLE);
+        return of(60, 150, 4);
     }
 
     /** One source a number, and no cells. */

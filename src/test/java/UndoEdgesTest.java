@@ -1,7 +1,8 @@
 /** Undo at its edges: each thing, each of what is brought back, what is no thing, and what leaves nothing to undo. */
 public final class UndoEdgesTest {
     private static final Check CHECK = new Check();
-    private static final String THINGS = "are as before the latest of: change(), edit(), fail(), run(), and join() without clashes";
+    private static final String THINGS =
+            "are as before the latest of: change(), edit(), fail(), run(), and join() without clashes";
     private static final String LEAVE = "source(), cell() and person() can not be undone, and nothing behind them can";
     private static final int CHANGE = 0;
     private static final int EDIT = 1;
@@ -37,9 +38,11 @@ public final class UndoEdgesTest {
         CHECK.sentence("terms, UNDO, sources", "sources' numbers", UndoEdgesTest::sources);
         CHECK.sentence("terms, UNDO, told to fail", "what is told to fail", UndoEdgesTest::told);
         CHECK.sentence("terms, UNDO, states and numbers", "states, numbers", UndoEdgesTest::statesAndNumbers);
-        CHECK.sentence("terms, UNDO, worked with: the formula", "what cells were worked with", UndoEdgesTest::workedWithFormula);
+        CHECK.sentence("terms, UNDO, worked with: the formula", "what cells were worked with",
+                UndoEdgesTest::workedWithFormula);
         CHECK.sentence("terms, UNDO, worked with: told", "what cells were worked with", UndoEdgesTest::workedWithTold);
-        CHECK.sentence("terms, UNDO, worked with: numbers", "what cells were worked with", UndoEdgesTest::workedWithNumbers);
+        CHECK.sentence("terms, UNDO, worked with: numbers", "what cells were worked with",
+                UndoEdgesTest::workedWithNumbers);
         CHECK.sentence("terms, UNDO, barred before", "what cells were worked with", UndoEdgesTest::barredBefore);
         CHECK.sentence("terms, UNDO, circles", "UNDO: formulas", UndoEdgesTest::circles);
         CHECK.sentence("terms, UNDO, other things behind it", "the latest first", UndoEdgesTest::goesOnFromThere);
@@ -50,7 +53,8 @@ public final class UndoEdgesTest {
         CHECK.sentence("terms, UNDO, joined", "(Copies stay as they are.)", UndoEdgesTest::joinedCopiesStay);
         CHECK.sentence("terms, UNDO, clashes", "and join() without clashes", UndoEdgesTest::clashingJoin);
         CHECK.sentence("terms, UNDO, refused", THINGS, UndoEdgesTest::refusedThings);
-        CHECK.sentence("promise 16, nothing there", "Undoes the latest thing: whether there was one.", UndoEdgesTest::nothingThere);
+        CHECK.sentence("promise 16, nothing there", "Undoes the latest thing: whether there was one.",
+                UndoEdgesTest::nothingThere);
         CHECK.sentence("promise 20, what 3", "things that can be undone (3)", UndoEdgesTest::countsThings);
     }
 
@@ -58,7 +62,8 @@ public final class UndoEdgesTest {
         CHECK.sentence("terms, UNDO, source()", LEAVE, UndoEdgesTest::behindSource);
         CHECK.sentence("terms, UNDO, cell()", LEAVE, UndoEdgesTest::behindCell);
         CHECK.sentence("terms, UNDO, person()", LEAVE, UndoEdgesTest::behindPerson);
-        CHECK.sentence("terms, UNDO, sixteen behind source()", "they leave nothing to undo.", UndoEdgesTest::sixteenBehindSource);
+        CHECK.sentence("terms, UNDO, sixteen behind source()", "they leave nothing to undo.",
+                UndoEdgesTest::sixteenBehindSource);
         CHECK.sentence("terms, UNDO, things behind them", "they leave nothing to undo.", UndoEdgesTest::thingsBehind);
     }
 
@@ -245,28 +250,32 @@ public final class UndoEdgesTest {
     }
 
     private static void workedWithFormula() {
-        SheetNeeds x = made();
-        x.run();
-        x.edit(0, 0, -2, -1);
-        CHECK.is("run()", x.run(), 1);
-        x.undo();
-        CHECK.is("run() once more", x.run(), 1);
-        x.undo();
-        x.undo();
-        CHECK.is("run() by the formula that it was worked with", x.run(), 0);
+        for (int cell = 0; cell < 2; cell++) { // the first one, which the other one uses, and the last one
+            SheetNeeds x = made();
+            x.run();
+            x.edit(cell, 5, -1, -1);
+            CHECK.is("run()", x.run(), 2 - cell);
+            x.undo();
+            CHECK.is("run() once more", x.run(), 2 - cell);
+            x.undo();
+            x.undo();
+            CHECK.is("run() by the formula that it was worked with", x.run(), 0);
+        }
     }
 
     private static void workedWithTold() {
-        SheetNeeds x = made();
-        x.run();
-        x.fail(1, true);
-        CHECK.is("run()", x.run(), 1);
-        x.undo();
-        CHECK.is("run() once more", x.run(), 1);
-        x.undo();
-        x.undo();
-        CHECK.is("run(), told as when it was worked", x.run(), 0);
-        CHECK.is("state(1)", x.state(1), 0);
+        for (int cell = 0; cell < 2; cell++) {
+            SheetNeeds x = made();
+            x.run();
+            x.fail(cell, true);
+            CHECK.is("run()", x.run(), 1);
+            x.undo();
+            CHECK.is("run() once more", x.run(), 1);
+            x.undo();
+            x.undo();
+            CHECK.is("run(), told as when it was worked", x.run(), 0);
+            CHECK.is("state(" + cell + ")", x.state(cell), 0);
+        }
     }
 
     private static void workedWithNumbers() {

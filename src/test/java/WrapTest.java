@@ -1,4 +1,4 @@
-/** Numbers of 64 bits: where the ops wrap round, where they are rounded, where they fail, and what counts as another number. */
+/** Numbers of 64 bits: where the ops wrap round, are rounded or fail, and what counts as another number. */
 public final class WrapTest {
     private static final Check CHECK = new Check();
     private static final String WIDTH = "0 a + b, 1 a - b, 2 a * b (64 bits)";
@@ -23,7 +23,8 @@ public final class WrapTest {
         CHECK.sentence("terms, OPS 5", "5 a, if that is not 0, else b.", WrapTest::firstUnlessZero);
         CHECK.sentence("terms, RUN, a source", OTHER_NUMBER, WrapTest::sourceThatDiffersInOneBit);
         CHECK.sentence("terms, RUN, a cell", OTHER_NUMBER, WrapTest::cellThatDiffersInHighBits);
-        CHECK.sentence("terms, RUN, a cell that wraps to the same number", OTHER_NUMBER, WrapTest::cellThatWrapsToTheSame);
+        CHECK.sentence("terms, RUN, a cell that wraps to the same number", OTHER_NUMBER,
+                WrapTest::cellThatWrapsToTheSame);
         CHECK.sentence("terms, UNDO", "formulas, sources' numbers, what is told to fail, states, numbers",
                 WrapTest::undoneNumbersHave64Bits);
         CHECK.end();
@@ -51,7 +52,8 @@ public final class WrapTest {
     }
 
     private static void sourcesHold64Bits() {
-        for (long v : new long[] {LOWEST, LOWEST + 1, -1, 0, 1, GREATEST - 1, GREATEST, 1L << 32, -(1L << 32), 1L << 31}) {
+        long[] numbers = {LOWEST, LOWEST + 1, -1, 0, 1, GREATEST - 1, GREATEST, 1L << 32, -(1L << 32), 1L << 31};
+        for (long v : numbers) {
             SheetNeeds x = Sheets.withSources(v);
             x.cell(5, -1, -1);
             x.run();
